@@ -853,11 +853,9 @@ public final class ScrapedSkin {
 
         /** A number; NONE, with the cursor at what is wrong: no digit, or one digit too many. */
         int number(int mostDigits) {
-            if (!peeksDigit()) {
-                return NONE;
-            }
             int value = 0;
             int digits = 0;
+            peek();
             while (at < length && bytes[at] >= '0' && bytes[at] <= '9') {
                 if (digits == mostDigits) {
                     return NONE;
@@ -866,7 +864,7 @@ public final class ScrapedSkin {
                 digits++;
                 at++;
             }
-            return value;
+            return digits == 0 ? NONE : value;
         }
     }
 
@@ -1047,6 +1045,7 @@ public final class ScrapedSkin {
     /** A law of fading, kept as steps that work on a stack. */
     private static final class Law {
         private static final String LETTER_SIGNS = "sdfiry";
+        private static final String OPENING = "!(";
         private static final String COMPARING = "=<>";
         private static final String ADDING = "+-";
         private static final String MULTIPLYING = "*/";
@@ -1098,7 +1097,7 @@ public final class ScrapedSkin {
             if (!tape.eats('y') || !tape.eats(':')) {
                 return false;
             }
-            boolean begun = tape.peekAmong("!(") < 0;
+            boolean begun = tape.peekAmong(OPENING) < 0;
             if (begun) {
                 if (!readSum(tape, 0)) {
                     return false;
@@ -1151,28 +1150,13 @@ public final class ScrapedSkin {
         }
 
         private boolean readUnit(Tape tape, int within, boolean begun) {
-            if (begun) {
-                return readComparison(tape, within);
+            int opening = begun ? NONE : tape.peekAmong(OPENING);
+            if (opening >= 0) {
+                return readOpened(tape, within, opening == 0);
             }
-            int first = tape.peekAmong("!(");
-            if (first < 0) {
-                return readSum(tape, within) && readComparison(tape, within);
-            }
-            if (within >= MOST_WITHIN) {
+            if (!begun && !readSum(tape, within)) {
                 return false;
             }
-            tape.step();
-            if (first == 1) {
-                return readCondition(tape, within + 1, false) && tape.eats(')');
-            }
-            if (!readUnit(tape, within + 1, false)) {
-                return false;
-            }
-            add(NOT, 0);
-            return true;
-        }
-
-        private boolean readComparison(Tape tape, int within) {
             int which = tape.peekAmong(COMPARING);
             if (which < 0) {
                 return false;
@@ -1182,6 +1166,21 @@ public final class ScrapedSkin {
                 return false;
             }
             add(EQUAL + which, 0);
+            return true;
+        }
+
+        private boolean readOpened(Tape tape, int within, boolean denied) {
+            if (within >= MOST_WITHIN) {
+                return false;
+            }
+            tape.step();
+            if (!denied) {
+                return readCondition(tape, within + 1, false) && tape.eats(')');
+            }
+            if (!readUnit(tape, within + 1, false)) {
+                return false;
+            }
+            add(NOT, 0);
             return true;
         }
 
@@ -1279,18 +1278,18 @@ public final class ScrapedSkin {
             } else {
                 int right = pop();
                 int left = pop();
-                push(joined(step, left, right));
+                push(held(joined(step, left, right)));
             }
         }
 
-        private static int joined(int step, int left, int right) {
+        private static long joined(int step, int left, int right) {
             switch (step) {
                 case PLUS:
-                    return held((long) left + right);
+                    return left + right;
                 case MINUS:
-                    return held((long) left - right);
+                    return left - right;
                 case TIMES:
-                    return held((long) left * right);
+                    return (long) left * right;
                 case DIVIDED:
                     return right == 0 ? 0 : left / right;
                 case EQUAL:
