@@ -204,6 +204,10 @@ public final class ActTest {
             String law = (String) one[0];
             Checks.same("left by " + law, left(law), (Integer) one[1]);
         }
+        Checks.same("as deep as can be",
+                left("y:s=0|s=9&(s=0|s=9&(s=0|s=9&(1=1+1*[0+1*[0+1*[0+0]]])))?1;y:2"), 8);
+        Checks.same("as long as can be", left("y:" + "0+".repeat(118) + "04"), 5);
+        Checks.same("as many clauses as can be", left("y:s<1?9;".repeat(29) + "y:6;y:7"), 9 - 6);
         ScrapedSkin x = Checks.skin("sw3r3;hi9f4", "a");
         Checks.tell(x, 1, "y:y=99?9;y:y=1?2");
         x.law(0);

@@ -132,6 +132,11 @@ public final class ReadTest {
         x.write(2, 2, 1, 0);
         Checks.same("what is not legible is in the way, too", x.lost(0, 0, 2), 3 + 5);
         Checks.same("nothing agrees", x.lost(1, 4, 1), 0);
+        ScrapedSkin all = Checks.skin("sw8r2l9;hi9", "abcdefgh/ijklmnop");
+        all.write(0, 0, 0, 0);
+        Checks.same("sixteen letters, all lost", all.lost(0, 0, 1), 2);
+        Checks.same("eight of sixteen", all.lost(0, 0, 9), 1);
+        Checks.same("one of sixteen", all.lost(0, 0, 16), 1);
         int[][] wrong = {{3, 0, 1}, {-1, 0, 1}, {0, 12, 1}, {0, -1, 1}, {0, 32, 1}, {0, 0, 0}, {0, 0, 17}, {0, 0, -1}};
         for (int[] one : wrong) {
             Checks.same("lost refused", x.lost(one[0], one[1], one[2]), -1);
