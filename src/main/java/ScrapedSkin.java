@@ -57,7 +57,6 @@ public final class ScrapedSkin {
     private final int[] tally = new int[MOST_CELLS * (LETTERS + 1)];
     private final int[] scraperHas = new int[SCRAPES];
     private final int[] readerHas = new int[SCRAPES * LOOKS];
-    private final long[] parts = new long[MOST_SIGNS + 1];
     private int scribing = 4;
     private long drawn;
 
@@ -408,17 +407,7 @@ public final class ScrapedSkin {
         if (told == null || chance < 0 || chance > 100 || v < 0 || v > MOST_SIGNS || !rules.does(told, spot)) {
             return NONE;
         }
-        Arrays.fill(parts, 0L);
-        parts[0] = ALL_PARTS;
-        int letters = lettersThat(AGREEING, page, told, spot);
-        for (int k = 0; k < letters; k++) {
-            misread(chance);
-        }
-        long right = 0;
-        for (int k = v; k < parts.length; k++) {
-            right += parts[k];
-        }
-        return (int) right;
+        return (int) readRightly(ALL_PARTS, lettersThat(AGREEING, page, told, spot), v, chance);
     }
 
     public int shares(int hand, int c) {
@@ -725,15 +714,20 @@ public final class ScrapedSkin {
         return true;
     }
 
-    /** From the most read rightly down, so that no part is moved twice by one letter. */
-    private void misread(int chance) {
-        for (int k = parts.length - 1; k >= 0; k--) {
-            long wrong = parts[k] * chance / 100;
-            if (k + 1 < parts.length) {
-                parts[k + 1] += parts[k] - wrong;
-                parts[k] = wrong;
-            }
+    /**
+     * Of a part that by which enough of the letters still to come are read rightly. Parts are never joined again,
+     * as each is cut for itself; and none is divided for nothing, once its letters are enough or too few.
+     */
+    private static long readRightly(long part, int letters, int needed, int chance) {
+        if (needed <= 0) {
+            return part;
         }
+        if (letters < needed || letters > MOST_SIGNS) {
+            return 0;
+        }
+        long misread = part * chance / 100;
+        return readRightly(misread, letters - 1, needed, chance)
+                + readRightly(part - misread, letters - 1, needed - 1, chance);
     }
 
     private int fullestBy(int what) {

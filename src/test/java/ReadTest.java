@@ -1,3 +1,6 @@
+import java.util.ArrayList;
+import java.util.List;
+
 /** Promises 20 to 38: what shows, what may stand, what is lost, fits, meets, rests, is misread and is most. */
 public final class ReadTest {
     private static final int MIN = Integer.MIN_VALUE;
@@ -331,11 +334,65 @@ public final class ReadTest {
             right -= right * 33 / 100;
         }
         Checks.same("what is right is what is left", x.odds(0, 0, 33, 16), right);
+        oddsOfEachPart(x);
+        oddsOfWhatAgrees();
         int[][] wrong = {{2, 0, 0, 0}, {-1, 0, 0, 0}, {0, 4, 0, 0}, {0, -1, 0, 0}, {0, 0, -1, 0}, {0, 0, 101, 0},
             {0, 0, 0, -1}, {0, 0, 0, 17}};
         for (int[] one : wrong) {
             Checks.same("odds refused", x.odds(one[0], one[1], one[2], one[3]), -1);
         }
+    }
+
+    /** No two parts are joined, also not such in which as many letters are read rightly: each is cut for itself. */
+    private static void oddsOfEachPart(ScrapedSkin sixteen) {
+        ScrapedSkin five = Checks.skin("h", "abcde");
+        five.write(0, 0, 0, 0);
+        // Behind four letters nothing was cut yet: one part of 10 with none right, four parts of 990 with one right.
+        // The fifth misreads none of the 10 (0.1, cut), so all 10 have one right; of each 990 it misreads 9 (9.9,
+        // cut), so 4 * 9 stay with one right. Joined, it would have misread 39 of 3960.
+        Checks.same("two or more of five", five.odds(0, 0, 1, 2), 1000000000 - 10 - 4 * 9);
+        Checks.same("one or more of five", five.odds(0, 0, 1, 1), 1000000000);
+        for (int chance = 0; chance <= 100; chance++) {
+            for (int v = 0; v <= 16; v++) {
+                Checks.same("odds of five by " + chance + " for " + v, five.odds(0, 0, chance, v),
+                        oddsByList(5, chance, v));
+            }
+        }
+        for (int chance : new int[] {0, 1, 7, 33, 50, 67, 99, 100}) {
+            for (int v = 0; v <= 16; v++) {
+                Checks.same("odds of sixteen by " + chance + " for " + v, sixteen.odds(0, 0, chance, v),
+                        oddsByList(16, chance, v));
+            }
+        }
+    }
+
+    /** Every part on its own, each with how many letters are read rightly in it. */
+    private static long oddsByList(int letters, int chance, int v) {
+        List<long[]> parts = new ArrayList<>();
+        parts.add(new long[] {1000000000L, 0});
+        for (int i = 0; i < letters; i++) {
+            List<long[]> then = new ArrayList<>();
+            for (long[] part : parts) {
+                long misread = part[0] * chance / 100;
+                then.add(new long[] {misread, part[1]});
+                then.add(new long[] {part[0] - misread, part[1] + 1});
+            }
+            parts = then;
+        }
+        long sum = 0;
+        for (long[] part : parts) {
+            sum += part[1] >= v ? part[0] : 0;
+        }
+        return sum;
+    }
+
+    /** Signs left free, letters that are gone and letters that are against it are neither read nor misread. */
+    private static void oddsOfWhatAgrees() {
+        ScrapedSkin x = Checks.skin("sw8r1;h", "ab.cd", "ab.z");
+        x.write(1, 0, 0, 0);
+        Checks.same("both that agree", x.odds(0, 0, 10, 2), 810000000);
+        Checks.same("one of both", x.odds(0, 0, 10, 1), 990000000);
+        Checks.same("no third one", x.odds(0, 0, 10, 3), 0);
     }
 
     private static void sharesAndMost() {

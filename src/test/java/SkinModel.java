@@ -825,17 +825,17 @@ final class SkinModel {
         if (placed(writing, spot) == null || chance < 0 || chance > 100 || v < 0 || v > 16) {
             return -1;
         }
-        Map<Integer, Long> byRight = new HashMap<>(Map.of(0, 1000000000L));
-        for (int i = 0; i < agrees(writing, spot, 0); i++) {
-            Map<Integer, Long> then = new HashMap<>();
-            for (Map.Entry<Integer, Long> part : byRight.entrySet()) {
-                long wrong = part.getValue() * chance / 100;
-                then.merge(part.getKey(), wrong, Long::sum);
-                then.merge(part.getKey() + 1, part.getValue() - wrong, Long::sum);
+        int letters = agrees(writing, spot, 0);
+        long sum = 0;
+        for (int misread = 0; misread < 1 << letters; misread++) {
+            long part = 1000000000L;
+            for (int i = 0; i < letters; i++) {
+                long cut = part * chance / 100;
+                part = (misread >> i & 1) == 1 ? cut : part - cut;
             }
-            byRight = then;
+            sum += letters - Integer.bitCount(misread) >= v ? part : 0;
         }
-        return (int) byRight.entrySet().stream().filter(p -> p.getKey() >= v).mapToLong(Map.Entry::getValue).sum();
+        return (int) sum;
     }
 
     int shares(int hand, int c) {
