@@ -716,13 +716,14 @@ public final class ScrapedSkin {
 
     /**
      * Of a part that by which enough of the letters still to come are read rightly. Parts are never joined again,
-     * as each is cut for itself; and none is divided for nothing, once its letters are enough or too few.
+     * as each is cut for itself; and none is divided for nothing, once its letters are enough or too few or it was
+     * cut to nothing itself.
      */
     private static long readRightly(long part, int letters, int needed, int chance) {
         if (needed <= 0) {
             return part;
         }
-        if (letters < needed || letters > MOST_SIGNS) {
+        if (letters < needed || letters > MOST_SIGNS || part == 0) {
             return 0;
         }
         long misread = part * chance / 100;

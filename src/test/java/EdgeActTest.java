@@ -16,6 +16,7 @@ public final class EdgeActTest {
         agesRefused();
         theLastYear();
         fadedToNothing();
+        allCellsOfTheLargest();
         worthWithinZeroAndNine();
         allAsTheYearBegan();
         yearModuloHundred();
@@ -24,6 +25,7 @@ public final class EdgeActTest {
         giving();
         fortyActs();
         undoneOneByOne();
+        whatIsNoAct();
         undoneLog();
         statusStays();
         Checks.end();
@@ -63,6 +65,7 @@ public final class EdgeActTest {
         Checks.same("ink as told", Checks.hand(x, 1, 0), 2);
         x.ages(1);
         Checks.same("no layer now", Checks.hand(x, 1, 2), 0);
+        Checks.same("two layers of the other one", Checks.hand(x, 0, 2), 2);
         Checks.same("no strength now", Checks.hand(x, 1, 3), 0);
         Checks.same("the other one has", Checks.hand(x, 0, 3), 10);
     }
@@ -401,6 +404,24 @@ public final class EdgeActTest {
         Checks.same("two were gone", x.log(0, 0), 2);
     }
 
+    /** The largest skin: its first and its last cell fade, and no more than its rows are scraped. */
+    private static void allCellsOfTheLargest() {
+        ScrapedSkin x = Checks.skin("sw8r5k99;hi9f1", "abcdefgh/abcdefgh", "abcdefgh");
+        x.write(0, 0, 0, 0);
+        x.write(0, 0, 16, 0);
+        Checks.same("forty layers", x.write(1, 0, 32, 0), 40);
+        x.ages(1);
+        for (int cell = 0; cell < 40; cell++) {
+            Checks.same("faded in cell " + cell, x.layer(cell, 0, 2), 8);
+        }
+        Checks.same("the last row", x.scrape(4, 8), 8);
+        Checks.same("the first row", x.scrape(0, 7), 0);
+        Checks.same("its last cell", x.layer(7, 0, 2), 1);
+        Checks.same("not the cell behind it", x.layer(8, 0, 2), 8);
+        x.years(30, 5);
+        Checks.same("and goes on", x.count(6), 31);
+    }
+
     /** Less STRENGTH by WORTH, held within 0 .. 9 (none at first: how FAST its HAND's ink fades). */
     private static void worthWithinZeroAndNine() {
         String[] laws = {"y:0-9999", "y:0-1", "y:0", "y:1", "y:8", "y:9", "y:10", "y:9999"};
@@ -627,6 +648,31 @@ public final class EdgeActTest {
         Checks.same("none", x.undo(), -1);
         Checks.same("refused acts are none", x.write(0, 0, 2, 0) + x.give(0) + x.scrape(0, 1), -3);
         Checks.same("none still", x.undo(), -1);
+    }
+
+    /** What is no ACT is neither undone nor in the way of undoing. */
+    private static void whatIsNoAct() {
+        ScrapedSkin x = Checks.skin("sw3r1k5;hi5f2", "ab");
+        x.write(0, 0, 0, 0);
+        x.noted(0, 0, true);
+        x.scribes(8);
+        Checks.tell(x, 1, "y:3");
+        x.law(0);
+        Checks.tell(x, 2, "c");
+        Checks.tell(x, 0, "sw9");
+        x.image();
+        x.fault(0);
+        x.end(2);
+        Checks.same("one act", x.count(10), 1);
+        Checks.same("undone", x.undo(), 0);
+        Checks.same("blank", x.most(0), 0);
+        Checks.same("noted", x.count(8), 1);
+        Checks.same("scribes", x.count(7), 8);
+        Checks.same("the law", x.count(5), 0);
+        Checks.same("both writings", x.count(3), 2);
+        Checks.same("the tape", x.count(4), 2);
+        Checks.same("the image", x.back(), 0);
+        Checks.same("with what was written", x.most(0), 2);
     }
 
     /** (LOG, too): years that were told no more are told again, up to forty of them. */

@@ -20,12 +20,14 @@ public final class EdgeReadTest {
         howFarEver();
         orderOfSeveral();
         lostByAmounts();
+        lostByWhatHolds();
         lostByRows();
         lostRefused();
         fadedWithinNinetyNine();
         fadedRefused();
         tenNoted();
         fitting();
+        fittingByWays();
         asking();
         meeting();
         quireOfSeveral();
@@ -296,6 +298,34 @@ public final class EdgeReadTest {
         for (int what : new int[] {-1, 2, 3, Edges.MIN, Edges.MAX}) {
             silent("order " + what, s -> s.order(what), -1);
         }
+        for (int hands = 2; hands <= 4; hands++) {
+            for (String row : rowsOf(hands)) {
+                ScrapedSkin each = Checks.skin("sw2r1k50" + ";h".repeat(hands), "a");
+                for (int i = 0; i < hands; i++) {
+                    each.write(0, row.charAt(i) - '0', 1, 0);
+                }
+                Checks.same("written in the order " + row, each.order(0), Integer.parseInt(row));
+                Checks.same("none otherwise", each.order(1), 0);
+            }
+        }
+    }
+
+    /** All rows of the digits below n, each once. */
+    private static List<String> rowsOf(int n) {
+        List<String> all = new ArrayList<>();
+        all.add("");
+        for (int length = 0; length < n; length++) {
+            List<String> longer = new ArrayList<>();
+            for (String row : all) {
+                for (int digit = 0; digit < n; digit++) {
+                    if (row.indexOf('0' + digit) < 0) {
+                        longer.add(row + digit);
+                    }
+                }
+            }
+            all = longer;
+        }
+        return all;
     }
 
     /** LOST: each ROW by any whole amount: what lies over it first, then down to one below LEGIBLE. */
@@ -317,6 +347,45 @@ public final class EdgeReadTest {
         Checks.same("the lowest of the letter holds", twice.lost(0, 0, 1), 5 + 5 + 3);
         twice.write(0, 1, 0, 0);
         Checks.same("one that is not legible lies over it all the same", twice.lost(0, 0, 1), 2 + 5 + 5 + 3);
+    }
+
+    /** Only layers that are there now, of that letter, and LEGIBLE, hold; those above are in the way all the same. */
+    private static void lostByWhatHolds() {
+        ScrapedSkin x = Checks.skin("sw2r1l3k50;hf0i9;hf0i5;hf0i2", "a", "b", "a.b");
+        x.write(1, 1, 0, 0);
+        x.write(0, 1, 0, 0);
+        Checks.same("a b beneath does not hold", x.lost(0, 0, 1), 3);
+        Checks.same("the b itself does", x.lost(1, 0, 1), 8);
+        x.write(1, 0, 0, 0);
+        Checks.same("beneath 9", x.lost(0, 0, 1), 12);
+        x.scrape(0, 9);
+        Checks.same("that is gone again", x.lost(0, 0, 1), 3);
+        x.undo();
+        x.undo();
+        Checks.same("or was undone", x.lost(0, 0, 1), 3);
+        x.write(0, 2, 1, 0);
+        Checks.same("an a that is not legible is lost already", x.lost(0, 4, 1), 0);
+        x.write(1, 1, 1, 0);
+        Checks.same("though a b over it is", x.lost(0, 4, 1), 0);
+        Checks.same("which is lost itself by", x.lost(1, 4, 1), 3);
+        ScrapedSkin full = Checks.skin("sw2r1l3k50;hf0i9;hf0i5", "a", "b");
+        for (int i = 0; i < 6; i++) {
+            full.write(i == 5 ? 0 : 1, 0, 0, 0);
+            full.write(0, 0, 1, 0);
+        }
+        Checks.same("uppermost of six; what the next cell holds is nothing to it", full.lost(0, 0, 1), 7);
+        ScrapedSkin free = Checks.skin("sw3r1l3k50;hf0i5", "a.b");
+        free.write(0, 0, 0, 0);
+        Checks.same("a sign left free is not lost", free.lost(0, 0, 2), 3);
+        Checks.same("nor needed", free.lost(0, 0, 1), 3);
+        Checks.same("nor counted", free.lost(0, 0, 3), 0);
+        ScrapedSkin last = Checks.skin("sw8r5l3k50;hf0i5", "a", "a/a");
+        last.write(0, 0, 39, 0);
+        Checks.same("in the last row", last.lost(0, 4 * 39, 1), 3);
+        last.write(0, 0, 31, 0);
+        Checks.same("in the last two", last.lost(1, 4 * 31, 1), 6);
+        Checks.same("in one of them", last.lost(1, 4 * 31, 2), 3);
+        Checks.same("upwards", last.lost(1, 4 * 39 + 2, 1), 6);
     }
 
     /** All amounts added up; fewer than v of its letters AGREE. */
@@ -490,6 +559,30 @@ public final class EdgeReadTest {
         Checks.same("on a blank skin: what is written is nothing to it", dark.fits(-1), 16);
     }
 
+    /** NOTED of a writing of two lines: by each way its second line lies elsewhere. */
+    private static void fittingByWays() {
+        // ab/c from the cell 4, the middle of 3 times 3: the b and the c by each way
+        int[] cells = {5, 7, 7, 3, 3, 1, 1, 5};
+        for (int way = 0; way < 4; way++) {
+            ScrapedSkin x = Checks.skin("sw3r3;h", "ab/c");
+            x.noted(4, 0, true);
+            Checks.same("four ways from there", x.fits(-1), 4);
+            x.noted(cells[2 * way + 1], 2, true);
+            Checks.same("the c by way " + way, x.fits(-1), 1);
+            Checks.same("its place", x.fits(0), 16 + way);
+            x.noted(cells[2 * way], 1, true);
+            Checks.same("and the b", x.fits(0), 16 + way);
+            x.noted(cells[2 * way], 1, false);
+            Checks.same("not both", x.fits(-1), 0);
+            ScrapedSkin not = Checks.skin("sw3r3;h", "ab/c");
+            not.noted(4, 0, true);
+            not.noted(cells[2 * way + 1], 2, false);
+            Checks.same("all but way " + way, not.fits(-1), 3);
+            Checks.same("what is beyond a line is no letter of the next", not.noted(8, 2, false), 3);
+            Checks.same("still", not.fits(-1), 3);
+        }
+    }
+
     /** ASK: the CELL for which the most that tell the same of it are fewest (of several the lowest). */
     private static void asking() {
         ScrapedSkin one = Checks.skin("sw3r1;h", "a");
@@ -513,6 +606,19 @@ public final class EdgeReadTest {
             Checks.tell(s, 0, "sw2r1;h");
             Checks.tell(s, 2, "abc");
         }, s -> s.ask(), -1);
+        ScrapedSkin z = Checks.skin("sw3r1;h", "z");
+        z.noted(0, 25, false);
+        Checks.same("the last letter at 1 or 2: the lower", z.ask(), 1);
+        ScrapedSkin far = Checks.skin("sw8r5;h", "z");
+        for (int cell = 0; cell < 5; cell++) {
+            far.noted(cell, 25, false);
+        }
+        Checks.same("each of 35 cells by four ways", far.fits(-1), 140);
+        Checks.same("the lowest of them", far.ask(), 5);
+        ScrapedSkin ends = Checks.skin("sw8r5;h", "a......y", "a......z");
+        ends.noted(32, 0, true);
+        Checks.same("y or z", ends.fits(-1), 2);
+        Checks.same("in the last cell", ends.ask(), 39);
         ScrapedSkin last = Checks.skin("sw8r5;h", "a");
         for (int cell = 0; cell < 10; cell++) {
             last.noted(cell, 0, false);
@@ -567,6 +673,17 @@ public final class EdgeReadTest {
         Checks.tell(x, 2, "ab");
         Checks.same("the least of several", x.quire(0), 12);
         Checks.same("2 and 1", x.quire(1), 3);
+        for (int n = 2; n <= 6; n++) {
+            for (String row : rowsOf(n)) {
+                ScrapedSkin each = new ScrapedSkin();
+                for (int i = 0; i < n; i++) {
+                    int at = row.indexOf('0' + i);
+                    Checks.tell(each, 2, (char) ('a' + at) + "" + (char) ('b' + at));
+                }
+                Checks.same("each meets the next in " + row, each.quire(0), Integer.parseInt(row));
+                Checks.same("by one", each.quire(1), n - 1);
+            }
+        }
         for (int what : new int[] {-1, 2, Edges.MIN, Edges.MAX}) {
             silent("quire " + what, s -> s.quire(what), -1);
         }
@@ -605,6 +722,22 @@ public final class EdgeReadTest {
         Checks.same("one rest below", x.rests(1, -1), 1);
         Checks.same("that", x.rests(1, 0), 0);
         Checks.same("the skin is as it was", x.most(1), 6);
+        ScrapedSkin y = Checks.skin("sw8r5l1k50;hi1f0", "aa");
+        Checks.same("down from the last cell of the first row", y.write(0, 0, 7, 1), 2);
+        Checks.same("to the last cell of all", y.write(0, 0, 38, 0), 4);
+        Checks.same("the first row: its last cell alone", y.game(0, 0, 0, 1), 1);
+        Checks.same("gone by 1", y.game(0, 1, 0, 0), 1);
+        Checks.same("the second row: its last cell alone", y.game(1, 1, 0, 0), 1);
+        Checks.same("the row ahead of the last: none of the last", y.game(3, 0, 0, 1), 0);
+        Checks.same("the last row: both", y.game(4, 0, 0, 1), 2);
+        Checks.same("both gone", y.game(4, 1, 0, 0), 3);
+        Checks.same("its one rest", y.rests(4, 0), 10);
+        ScrapedSkin z = Checks.skin("sw2r2l1k50;hi1f0", "a");
+        z.write(0, 0, 2, 0);
+        Checks.same("the first cell of the row below is not of this", z.game(0, 0, 0, 1), 0);
+        Checks.same("nor its layer", z.game(0, 1, 0, 0), -1);
+        Checks.same("nor by the lamp", z.game(0, 0, 1, 1), -1);
+        Checks.same("but of that", z.game(1, 0, 0, 1), 1);
     }
 
     /** Promises 34 and 35: HIDDEN: no such ROW, out of bounds; NONE: no such one, no such ROW. */
@@ -782,6 +915,15 @@ public final class EdgeReadTest {
         Checks.same("shown", x.most(7), 3);
         Checks.same("beneath: all alike", x.most(8), 0);
         Checks.same("pure: 2 and 3, not 5", x.most(9), 2);
+        ScrapedSkin first = Checks.skin("sw8r5k50;h;h;h;h", "z", "a");
+        first.write(0, 3, 39, 0);
+        most(first, 39, 4, 3, 25);
+        first.write(1, 0, 0, 0);
+        most(first, 0, 0, 0, 0);
+        first.write(0, 3, 38, 0);
+        most(first, 0, 4, 3, 25);
+        first.write(0, 3, 39, 0);
+        most(first, 39, 4, 3, 25);
         for (int what : new int[] {-1, 10, 11, Edges.MIN, Edges.MAX}) {
             silent("most " + what, s -> s.most(what), -1);
         }

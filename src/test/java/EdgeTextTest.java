@@ -27,6 +27,7 @@ public final class EdgeTextTest {
         linesOfAWriting();
         signsOfAWriting();
         fourLaws();
+        behindAFault();
         sixWritings();
         textRefused();
         textOfASecondSkin();
@@ -161,6 +162,10 @@ public final class EdgeTextTest {
         fault(0, "h;h;h;s;h;h", 10);
         fault(0, "s;h;h;h;h;s", 10);
         fault(0, "h;h;h;h;x", 8);
+        fault(0, "s;h;h;h;h; h", 11);
+        fault(0, "s;h;h;h;h; s", 11);
+        fault(0, "s;h;h;h;h; ", 11);
+        fault(0, "s;h;h;h;h ", -1);
         fault(0, ";", 0);
         fault(0, "h;;", 2);
         fault(0, "g", 0);
@@ -384,6 +389,15 @@ public final class EdgeTextTest {
         fault(1, "y:1=1|1?1", 7);
         fault(1, "y:1+*1", 4);
         fault(1, "y:*1", 2);
+        fault(1, "y:1*;y:1", 4);
+        fault(1, "y:1+;y:1", 4);
+        fault(1, "y:[1+]", 5);
+        fault(1, "y:[1*]", 5);
+        fault(1, "y:1=?1", 4);
+        fault(1, "y:1=1&?1", 6);
+        fault(1, "y:1=1|?1", 6);
+        fault(1, "y:(1=1&)?1", 7);
+        fault(1, "y:!?1", 3);
     }
 
     /** At most six of ( [ ! within one another; a seventh of ( [ ! at it. */
@@ -485,6 +499,16 @@ public final class EdgeTextTest {
         holds("1=1|1=1&1=2", true);
         holds("(1=1|1=1)&1=2", false);
         holds("1=2&1=1|1=1", true);
+        holds("1=2&1=1", false);
+        holds("1=1&1=2", false);
+        holds("1<2&1=1", true);
+        holds("1=1&2>1", true);
+        holds("1<2&2>1", true);
+        holds("1<2|1=2", true);
+        holds("!1<2", false);
+        holds("!2>1", false);
+        holds("!1=1", false);
+        holds("!(1<2&2>1)", false);
         holds("!1=2&1=2", false);
         holds("!(1=2&1=2)", true);
         holds("!1=1|1=1", true);
@@ -583,6 +607,45 @@ public final class EdgeTextTest {
         Edges.silent("a fifth with a fault", s -> tellLaws(s, "y:"), s -> s.text(1), -1);
         tellLaws(x, "a");
         Checks.same("a writing is still taken", x.text(2), 0);
+        Checks.same("each law is its own", x.write(0, 0, 0, 0), 1);
+        for (int i = 0; i < 4; i++) {
+            Checks.same("law " + i + " holds", x.law(i), true);
+            x.ages(1);
+            Checks.same("and fades by " + i, x.most(1), 6 - i);
+            x.undo();
+        }
+    }
+
+    /** A text in which a FAULT was found leaves nothing behind in the one that is told next. */
+    private static void behindAFault() {
+        ScrapedSkin x = new ScrapedSkin();
+        Checks.same("a skin ahead", Checks.faultOf(x, 0, "sw2r1l9k99;hi9f9;hi9f9;x"), 23);
+        Checks.same("then another", Checks.tell(x, 0, "h;s"), 24);
+        Checks.same("one hand", x.count(1), 1);
+        Checks.same("its ink", Checks.hand(x, 0, 0), 6);
+        Checks.same("legible", x.rule(2), 3);
+        Checks.same("a writing ahead", Checks.faultOf(x, 2, "abcdefgh/b/c/d/e"), 14);
+        Checks.same("then another writing", Checks.tell(x, 2, "z"), 0);
+        Checks.same("its sign", x.sign(0, 0, 0), 25);
+        Checks.same("no second sign", x.sign(0, 0, 1), -1);
+        Checks.same("no second line", x.sign(0, 1, 0), -1);
+        Checks.same("it does everywhere, by each way", x.fits(-1), 96);
+        Checks.same("letters ahead", Checks.faultOf(x, 2, "ab/c1"), 4);
+        Checks.same("are no letters of this", Checks.faultOf(x, 2, "./."), 3);
+        Checks.same("a law ahead", Checks.faultOf(x, 1, "y:1=1?5;y:6;"), 12);
+        Checks.same("then another law", Checks.tell(x, 1, "y:1"), 0);
+        x.law(0);
+        x.write(0, 0, 23, 2);
+        x.ages(1);
+        Checks.same("that fades by 1", x.most(1), 5);
+        Checks.same("a fault looked at leaves what was told alone", Checks.faultOf(x, 1, "y:5;"), 4);
+        Checks.same("so does a writing", Checks.faultOf(x, 2, "abc/"), 4);
+        Checks.same("and a skin", Checks.faultOf(x, 0, "sw2;hi1;"), 8);
+        x.ages(1);
+        Checks.same("still by 1", x.most(1), 4);
+        Checks.same("still a z", x.sign(0, 0, 0), 25);
+        Checks.same("still as wide", x.rule(0), 6);
+        Checks.same("still its ink", Checks.hand(x, 0, 0), 6);
     }
 
     private static void tellLaws(ScrapedSkin x, String tape) {
@@ -615,6 +678,17 @@ public final class EdgeTextTest {
         Checks.same("a law is still taken", Checks.tell(x, 1, "y:1"), 0);
         Checks.same("a skin, too", Checks.tell(x, 0, "h"), 24);
         Checks.same("six still", x.count(3), 6);
+        for (int i = 0; i < 6; i++) {
+            Checks.same("each writing is its own", x.sign(i, 0, 1), i);
+        }
+        Checks.same("no seventh to read", x.sign(6, 0, 0), -1);
+        Checks.same("to meet", x.meets(6, 0) + x.meets(0, 6), -2);
+        Checks.same("to agree", x.agrees(6, 0, 0), -1);
+        Checks.same("to stand", x.may(6, -1) + x.best(6), -2);
+        Checks.same("to be lost or faded", x.lost(6, 0, 1) + x.faded(6, 0, 1), -2);
+        Checks.same("to be misread", x.odds(6, 0, 0, 0), -1);
+        Checks.same("to be written", x.write(6, 0, 0, 0), -1);
+        Checks.same("status 0", x.status(0), 1);
     }
 
     /** Promise 5: NONE: a FAULT; the tape and the skin are as they were. */
