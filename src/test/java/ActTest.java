@@ -441,15 +441,15 @@ public final class ActTest {
         Checks.same("as it was", x.count(0), 10);
     }
 
-    /** All that can be seen from outside, in one text. */
+    /** What can be seen from outside of twelve cells, in one text. */
     private static String seen(ScrapedSkin x) {
         StringBuilder all = new StringBuilder();
         for (int i = 0; i <= 10; i++) {
             all.append(x.count(i)).append(' ').append(x.rule(i)).append(' ').append(x.most(i)).append(' ');
             all.append(Checks.hand(x, i, 2)).append(' ').append(x.fits(i)).append(' ').append(x.log(i, 1)).append(' ');
         }
-        for (int cell = 0; cell < 40; cell++) {
-            for (int i = 0; i < 6; i++) {
+        for (int cell = 0; cell < 12; cell++) {
+            for (int i = 0; i < 2; i++) {
                 all.append(x.layer(cell, i, 0)).append(x.layer(cell, i, 1)).append(x.layer(cell, i, 2)).append(',');
             }
         }

@@ -197,11 +197,13 @@ public final class EdgeDrawTest {
     /** Each YEAR with what is ahead of it is one ACT. */
     private static void eachYearOneAct() {
         for (long seed = 1; seed <= 12; seed++) {
-            ScrapedSkin x = Checks.skin("sw2r3k0;hi7f0;hi8f0;hi9f0", "a", "b", "c", "d");
-            x.scribes(9);
-            x.years(30, seed);
             for (int left = 29; left >= 0; left--) {
-                Checks.same("still can be", x.undo(), left);
+                ScrapedSkin x = Checks.skin("sw2r3k0;hi7f0;hi8f0;hi9f0", "a", "b", "c", "d");
+                x.scribes(9);
+                x.years(30, seed);
+                for (int undone = 29; undone >= left; undone--) {
+                    Checks.same("still can be", x.undo(), undone);
+                }
                 Checks.same("the year", x.count(6), left);
                 Piles piles = new Piles(6, seed);
                 for (int i = 0; i < left; i++) {
@@ -384,14 +386,16 @@ public final class EdgeDrawTest {
 
     /** An object is used for at most 512 calls: the last of them is answered as the first. */
     private static void fiveHundredAndTwelveCalls() {
-        ScrapedSkin x = Checks.skin("sw2r1k0;h");
-        int calls = 3;
+        ScrapedSkin x = new ScrapedSkin();
+        Checks.same("call 1", x.feed('h', 0, 0, 0, 0), 1);
+        Checks.same("call 2", x.text(0), 24);
+        int calls = 2;
         while (calls < 510) {
-            Checks.same("given in call " + (calls + 1), x.give(1), 1);
+            Checks.same("given in call " + (calls + 1), x.give(1), 21);
             Checks.same("undone in call " + (calls + 2), x.undo(), 0);
             calls += 2;
         }
-        Checks.same("call 510 or 511", x.give(7), 7);
-        Checks.same("the last", x.count(10), 1);
+        Checks.same("call 511", x.give(7), 27);
+        Checks.same("call 512, the last", x.count(10), 1);
     }
 }

@@ -813,9 +813,9 @@ public final class EdgeReadTest {
 
     /** ODDS: a chance (0 .. 100) and v (0 .. 16). NONE: no such WRITING, it does not DO there, out of bounds. */
     private static void oddsAtTheEnds() {
-        ScrapedSkin x = Checks.skin("sw8r2k99;h", "a", "b", "abcdefgh/abcdefgh");
-        x.write(0, 0, 0, 0);
         for (int chance = 0; chance <= 100; chance++) {
+            ScrapedSkin x = Checks.skin("h", "a", "b");
+            x.write(0, 0, 0, 0);
             Checks.same("one letter, none needed", x.odds(0, 0, chance, 0), 1000000000);
             Checks.same("one letter by " + chance, x.odds(0, 0, chance, 1), 1000000000 - 10000000 * chance);
             Checks.same("two of one letter", x.odds(0, 0, chance, 2), 0);
@@ -823,10 +823,11 @@ public final class EdgeReadTest {
             Checks.same("none agrees, none needed", x.odds(1, 0, chance, 0), 1000000000);
             Checks.same("none agrees, one needed", x.odds(1, 0, chance, 1), 0);
         }
-        x.write(2, 0, 0, 0);
+        ScrapedSkin sixteen = Checks.skin("sw8r2;h", "abcdefgh/abcdefgh");
+        sixteen.write(0, 0, 0, 0);
         for (int v = 0; v <= 16; v++) {
-            Checks.same("none is misread", x.odds(2, 0, 0, v), 1000000000);
-            Checks.same("all are misread", x.odds(2, 0, 100, v), v == 0 ? 1000000000 : 0);
+            Checks.same("none is misread", sixteen.odds(0, 0, 0, v), 1000000000);
+            Checks.same("all are misread", sixteen.odds(0, 0, 100, v), v == 0 ? 1000000000 : 0);
         }
         // By 99 of 100 the first is read rightly in 10000000 parts, of these the next in 100000, 1000, 10, then 10 - 9
         Checks.same("four at least of four", fourLetters().odds(0, 0, 99, 4), 10);

@@ -345,14 +345,14 @@ public final class ReadTest {
 
     /** No two parts are joined, also not such in which as many letters are read rightly: each is cut for itself. */
     private static void oddsOfEachPart(ScrapedSkin sixteen) {
-        ScrapedSkin five = Checks.skin("h", "abcde");
-        five.write(0, 0, 0, 0);
+        ScrapedSkin five = fiveLetters();
         // Behind four letters nothing was cut yet: one part of 10 with none right, four parts of 990 with one right.
         // The fifth misreads none of the 10 (0.1, cut), so all 10 have one right; of each 990 it misreads 9 (9.9,
         // cut), so 4 * 9 stay with one right. Joined, it would have misread 39 of 3960.
         Checks.same("two or more of five", five.odds(0, 0, 1, 2), 1000000000 - 10 - 4 * 9);
         Checks.same("one or more of five", five.odds(0, 0, 1, 1), 1000000000);
         for (int chance = 0; chance <= 100; chance++) {
+            five = fiveLetters();
             for (int v = 0; v <= 16; v++) {
                 Checks.same("odds of five by " + chance + " for " + v, five.odds(0, 0, chance, v),
                         oddsByList(5, chance, v));
@@ -364,6 +364,12 @@ public final class ReadTest {
                         oddsByList(16, chance, v));
             }
         }
+    }
+
+    private static ScrapedSkin fiveLetters() {
+        ScrapedSkin x = Checks.skin("h", "abcde");
+        x.write(0, 0, 0, 0);
+        return x;
     }
 
     /** Every part on its own, each with how many letters are read rightly in it. */
