@@ -232,7 +232,7 @@ public final class ScrapedSkin {
 
     public int agrees(int writing, int spot, int what) {
         Writing told = shelf.writingAt(writing);
-        if (told == null || what < 0 || what > 2 || !rules.does(told, spot)) {
+        if (what < 0 || what > 2 || !rules.does(told, spot)) {
             return NONE;
         }
         return lettersThat(what, page, told, spot);
@@ -288,7 +288,7 @@ public final class ScrapedSkin {
 
     public int lost(int writing, int spot, int v) {
         Writing told = shelf.writingAt(writing);
-        if (told == null || v < 1 || v > MOST_SIGNS || !rules.does(told, spot)) {
+        if (v < 1 || v > MOST_SIGNS || !rules.does(told, spot)) {
             return NONE;
         }
         loss.clear();
@@ -304,7 +304,7 @@ public final class ScrapedSkin {
 
     public int faded(int writing, int spot, int v) {
         Writing told = shelf.writingAt(writing);
-        if (told == null || v < 1 || v > MOST_SIGNS || !rules.does(told, spot)) {
+        if (v < 1 || v > MOST_SIGNS || !rules.does(told, spot)) {
             return NONE;
         }
         trial.copyFrom(page);
@@ -331,7 +331,7 @@ public final class ScrapedSkin {
         int found = 0;
         for (int writing = 0; writing < shelf.writingCount; writing++) {
             for (int spot = 0; spot < rules.spots(); spot++) {
-                if (isAsNoted(shelf.writings[writing], spot)) {
+                if (isAsNoted(shelf.writingAt(writing), spot)) {
                     if (found == i) {
                         return 1000 * writing + spot;
                     }
@@ -346,10 +346,11 @@ public final class ScrapedSkin {
         Arrays.fill(tally, 0);
         int found = 0;
         for (int writing = 0; writing < shelf.writingCount; writing++) {
+            Writing told = shelf.writingAt(writing);
             for (int spot = 0; spot < rules.spots(); spot++) {
-                if (isAsNoted(shelf.writings[writing], spot)) {
+                if (isAsNoted(told, spot)) {
                     found++;
-                    tallyLetters(shelf.writings[writing], spot);
+                    tallyLetters(told, spot);
                 }
             }
         }
@@ -368,7 +369,7 @@ public final class ScrapedSkin {
         }
         for (int one = 0; one < shelf.writingCount; one++) {
             for (int other = 0; other < shelf.writingCount; other++) {
-                ranking.judge(one, other, shelf.writings[one].meeting(shelf.writings[other]));
+                ranking.judge(one, other, meets(one, other));
             }
         }
         ranking.seek(shelf.writingCount, true);
@@ -404,7 +405,7 @@ public final class ScrapedSkin {
 
     public int odds(int writing, int spot, int chance, int v) {
         Writing told = shelf.writingAt(writing);
-        if (told == null || chance < 0 || chance > 100 || v < 0 || v > MOST_SIGNS || !rules.does(told, spot)) {
+        if (chance < 0 || chance > 100 || v < 0 || v > MOST_SIGNS || !rules.does(told, spot)) {
             return NONE;
         }
         return (int) readRightly(ALL_PARTS, lettersThat(AGREEING, page, told, spot), v, chance);
@@ -597,7 +598,7 @@ public final class ScrapedSkin {
         int hand = draw(rules.hands);
         int cell = draw(rules.cells());
         int spot = WAYS * cell + draw(WAYS);
-        if (told != null && rules.does(told, spot) && hasRoom(told, spot)) {
+        if (rules.does(told, spot) && hasRoom(told, spot)) {
             layDown(told, hand, spot);
         }
     }
@@ -1004,9 +1005,12 @@ public final class ScrapedSkin {
             return cell - firstOf(rowOf(cell));
         }
 
-        /** Lines and signs go along different axes, so the last line and the longest one tell for all. */
+        /**
+         * Lines and signs go along different axes, so the last line and the longest one tell for all. A writing that
+         * is none (null) does nowhere.
+         */
         boolean does(Writing told, int spot) {
-            if (spot < 0 || spot >= spots()) {
+            if (told == null || spot < 0 || spot >= spots()) {
                 return false;
             }
             int way = spot % WAYS;
