@@ -72,11 +72,22 @@ public final class ScrapedSkin {
     }
 
     public int fault(int sort) {
-        return faultOf(sort);
+        tape.rewind();
+        boolean right;
+        if (sort == 0) {
+            right = nextRules.read(tape);
+        } else if (sort == 1) {
+            right = shelf.nextLaw.read(tape);
+        } else if (sort == 2) {
+            right = shelf.nextWriting.read(tape);
+        } else {
+            return NO_SUCH_SORT;
+        }
+        return right ? NONE : tape.at;
     }
 
     public int text(int sort) {
-        if (faultOf(sort) != NONE) {
+        if (fault(sort) != NONE) {
             return NONE;
         }
         int taken = sort == 0 ? takeSkin() : sort == 1 ? shelf.takeLaw() : shelf.takeWriting();
@@ -479,21 +490,6 @@ public final class ScrapedSkin {
     private int refuse(int kind) {
         refusals[kind]++;
         return NONE;
-    }
-
-    private int faultOf(int sort) {
-        tape.rewind();
-        boolean right;
-        if (sort == 0) {
-            right = nextRules.read(tape);
-        } else if (sort == 1) {
-            right = shelf.nextLaw.read(tape);
-        } else if (sort == 2) {
-            right = shelf.nextWriting.read(tape);
-        } else {
-            return NO_SUCH_SORT;
-        }
-        return right ? NONE : tape.at;
     }
 
     private int takeSkin() {
